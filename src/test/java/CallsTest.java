@@ -10,6 +10,7 @@ public final class CallsTest {
         greet();
         greetLongNames();
         greetByRank();
+        eight();
         shortCall();
         allShort();
         apart();
@@ -154,6 +155,38 @@ public final class CallsTest {
         Check.due("rank asks for more breaths", y.greet(7, -1), 4);
         Check.due("the middle one", y.greet(7, 1), 1);
         Check.due("only the set's ranks", y.greet(6, 0), 1);
+        Check.due("only the set's ranks", y.greet(4, 0), 2);
+        Check.due("a council anew", y.greet(7, 0), 0);
+        y.kind(2, 2);
+        y.deed(2, 1);
+        Check.due("as names stand now", y.greet(4, -1), 1);
+        y.deed(2, 1);
+        Check.due("as names stand now", y.greet(4, -1), 2);
+        Check.due("as names stand now", y.greet(7, -1), 5);
+    }
+
+    /** All eight, each of one syllable: X asks for the opposite order. */
+    private static void eight() {
+        StringBuilder text = new StringBuilder();
+        for (int i = 0; i < 8; i++) {
+            text.append("n0,").append(i % 6).append(',').append(10 + i).append(",").append(i).append(';');
+        }
+        DeedNames x = Check.laid(text + "b12,0;");
+        Check.due("all by 18", x.warn(18, 0), 8);
+        Check.due("all by 18", x.warn(18, 1), 255);
+        Check.due("not all by 17", x.warn(17, 0), 7);
+        Check.due("the lowest seven", x.warn(17, 1), 127);
+        Check.due("one by 11", x.warn(11, 1), 1);
+        for (int i = 0; i < 8; i++) {
+            Check.due("the far ones first", x.called(18, i), 7 - i);
+            Check.due("in their order", x.called(999, i), i);
+            Check.due("by rank", x.greet(255, i), 7 - i);
+        }
+        Check.due("in one breath", x.greet(255, -1), 1);
+        Check.due("cry", x.cry(255), 8);
+        Check.due("short", x.shortCall(7, 255), NONE);
+        Check.due("short", x.shortCall(5, 255), 1);
+        Check.due("no ninth", x.cry(256), BAD);
     }
 
     private static void shortCall() {
@@ -231,5 +264,10 @@ public final class CallsTest {
         DeedNames y = Check.laid("n2,0,0,0;n0,01012,0,0;");
         Check.due("doubled, another one than 1", y.apart(0, 3, 0), 0);
         Check.due("doubled, another one than 1", y.apart(0, 3, 1), 4);
+        DeedNames z = Check.laid("n0,0,0,0;n0,00,0,0;n0,01,0,0;n0,02,0,0;n0,03,0,0;n0,04,0,0;n0,05,0,0;");
+        Check.due("each of the six is taken", z.apart(0, 127, 0), NONE);
+        Check.due("each of the six is taken", z.apart(0, 127, 1), NONE);
+        Check.due("all but the last are taken", z.apart(0, 63, 0), 5);
+        Check.due("all but the last are taken", z.apart(0, 63, 1), 12);
     }
 }

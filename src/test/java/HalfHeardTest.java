@@ -115,9 +115,15 @@ public final class HalfHeardTest {
         Check.due("none of four", x.meant(), NONE);
         hearAll(x, "4");
         Check.due("misheard, but alone", x.meant(), 4);
+        oddsDue(x, 4, 1, 1);
         x.kind(4, 2);
         Check.due("none of one", x.meant(), NONE);
         hearAll(x, "55");
         Check.due("doubled", x.meant(), 4);
+        DeedNames y = Check.laid("n0,0,0,0;n0,01,0,0;m1;");
+        hearAll(y, "1");
+        Check.due("the least weight", y.meant(), 0);
+        oddsDue(y, 0, 1, 1);
+        oddsDue(y, 1, 0, 1);
     }
 }

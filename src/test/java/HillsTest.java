@@ -32,6 +32,8 @@ public final class HillsTest {
         Check.due("new: lay", x.lay(), NO);
         Check.due("new: meant", x.meant(), NONE);
         Check.due("new: back", x.back(), NO);
+        Check.due("new: said 0", x.said(0, 0), 0);
+        Check.due("new: said 1", x.said(0, 1), 1);
         Check.due("new: deed 5", x.deed(0, 5), 3);
         Check.due("new: said 2", x.said(0, 2), 5);
     }
@@ -185,6 +187,18 @@ public final class HillsTest {
         Check.due("said", x.said(0, 2), 0);
         Check.due("lay again", x.lay(), 1);
         Check.due("as told again", x.person(0, 3), 1);
+        x.wipe();
+        Check.write(x, "n0,2,3,4;k0;k4;s2,6;l5,1;");
+        Check.due("fault", x.fault(), NONE);
+        Check.due("a text that is not laid changes nothing", x.person(0, 5), 1);
+        Check.due("a text that is not laid changes nothing", x.deed(0, 4), 2);
+        x.wipe();
+        Check.write(x, "n1,30,8,7;");
+        Check.due("lay", x.lay(), 1);
+        Check.due("what the text ahead told is gone", x.deed(0, 0), 3);
+        Check.due("what the text ahead told is gone", x.deed(0, 5), 4);
+        x.kind(0, 0);
+        Check.due("what the text ahead told is gone", x.said(0, 3), 5);
     }
 
     private static void person() {

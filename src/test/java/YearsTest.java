@@ -159,6 +159,19 @@ public final class YearsTest {
         x.keep();
         x.deed(0, 1);
         Check.due("kept apart from what is done", x.back(), 0);
+        Check.due("forget", x.forget(), 2);
+        x.hear(5);
+        x.hear(5);
+        x.keep();
+        x.forget();
+        x.hear(0);
+        x.hear(0);
+        Check.due("what was heard comes back, too", x.back(), 0);
+        // 55 weighs 81 as it was heard, 00 weighs 1
+        x.deed(0, 0);
+        Check.due("odds of 55, above", x.odds(1, 0), 81);
+        Check.due("odds of 55, below", x.odds(1, 1), 82);
+        x.deed(0, 3);
         Check.due("size", x.person(0, 3), 1);
     }
 
