@@ -1,17 +1,49 @@
 import java.nio.charset.StandardCharsets;
+import java.util.function.IntToLongFunction;
 
 /** What the tests share: counts answers that are not as due, and writes texts. */
 final class Check {
     static final int BAD = -1, NO = -2, FULL = -3, NONE = -4;
     private static int wrong = 0;
+    private static String sentence = "";
 
     private Check() {
+    }
+
+    /** The sentence of the document that is tested from here on. */
+    static void about(String words) {
+        sentence = "'" + words + "': ";
     }
 
     static void due(String call, long got, long want) {
         if (got != want) {
             wrong++;
-            System.out.println(call + " answered " + got + ", due is " + want);
+            System.out.println(sentence + call + " answered " + got + ", due is " + want);
+        }
+    }
+
+    static void same(String what, String got, String want) {
+        if (!got.equals(want)) {
+            wrong++;
+            System.out.println(sentence + what + " is\n" + got + "\nand was\n" + want);
+        }
+    }
+
+    /** The numbers least to most are told: all others are BAD, those among them that a narrower type would take for told ones. */
+    static void onlyTold(String call, int least, int most, IntToLongFunction answer) {
+        int[] near = {least, least + 1, most - 1, most};
+        for (int v : near) {
+            if (v >= least && v <= most && answer.applyAsLong(v) == BAD) {
+                due(call + " of " + v + " is BAD, so it", BAD, v);
+            }
+        }
+        int[] beyond = {least - 1, least - 2, most + 1, most + 2, least + 32, most + 32, least - 32, least + 64, least + 256,
+            most + 256, least - 256, least + 65536, most + 65536, Integer.MIN_VALUE, Integer.MIN_VALUE + least,
+            Integer.MIN_VALUE + most, Integer.MAX_VALUE, -most};
+        for (int v : beyond) {
+            if (v < least || v > most) {
+                due(call + " of " + v, answer.applyAsLong(v), BAD);
+            }
         }
     }
 
