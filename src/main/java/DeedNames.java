@@ -529,7 +529,7 @@ public final class DeedNames {
         }
 
         boolean has(int i) {
-            return within(i, 0, people - 1);
+            return i >= 0 && i < people;
         }
 
         boolean enter(int kind, int[] name, int size) {
@@ -540,8 +540,9 @@ public final class DeedNames {
             people++;
             kinds[i] = kind;
             sizes[i] = 0;
-            for (int k = 0; k < size && k < name.length; k++) {
-                gain(i, name[k]);
+            for (int k = 0; k < size && k < name.length && k < MOST_SYLLABLES; k++) {
+                syllables[i * MOST_SYLLABLES + k] = name[k];
+                sizes[i]++;
             }
             return true;
         }
@@ -563,8 +564,11 @@ public final class DeedNames {
         }
 
         int longOf(int i) {
-            int size = sizeOf(i);
-            switch (kindOf(i)) {
+            if (!has(i)) {
+                return 0;
+            }
+            int size = sizes[i];
+            switch (kinds[i]) {
                 case SHAMED:
                     return size >= 2 ? size - 1 : size;
                 case DOUBLE:
@@ -584,7 +588,7 @@ public final class DeedNames {
         }
 
         int syllableAt(int i, int k) {
-            return within(k, 0, sizeOf(i) - 1) ? syllables[i * MOST_SYLLABLES + k] : NONE;
+            return has(i) && within(k, 0, sizes[i] - 1) ? syllables[i * MOST_SYLLABLES + k] : NONE;
         }
 
         int saidAt(int i, int k) {

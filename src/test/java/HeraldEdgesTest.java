@@ -355,6 +355,13 @@ public final class HeraldEdgesTest {
         for (int i = 0; i < some.length; i++) {
             Check.due("greet some, " + i, x.greet(1 | 2 | 16 | 64, i), some[i]);
         }
+        Check.about("who is of higher RANK ahead: as it is LAID now");
+        x.wipe();
+        Check.write(x, "n0,0,0,9;n0,0,0,8;n0,0,0,7;");
+        x.lay();
+        for (int i = 0; i < 4; i++) {
+            Check.due("greet " + i, x.greet(7, i), i < 3 ? i : NONE);
+        }
         Check.about("who is of higher RANK ahead: also if more breaths are needed by that");
         DeedNames y = Check.laid("n0,012,0,2;n0,01,0,1;n0,3,0,0;n0,45,0,0;b4,3;");
         // 3, 2 1, 2: 3 breaths; by free order 3 1, 2 2 would be two

@@ -23,7 +23,9 @@ public final class RefusedTest {
         refusedOnFull();
         refusedLay();
         none();
+        ofSeveralTheFirst();
         askedTwice();
+        lastCall();
         Check.end();
     }
 
@@ -284,6 +286,29 @@ public final class RefusedTest {
         refused("fault", RefusedTest::half, x -> x.fault(), NONE);
     }
 
+    /** Two ways to be refused by one call: BAD stands ahead of NONE and FULL. */
+    private static void ofSeveralTheFirst() {
+        Check.about("Of several the first; nothing changes then");
+        refused("write of none, and no room", RefusedTest::full, x -> x.write(0, 0), BAD);
+        refused("write of nine, and no room", RefusedTest::full, x -> x.write(9, 0), BAD);
+        refused("deed 6 of a NAME of 10", RefusedTest::full, x -> x.deed(0, 6), BAD);
+        refused("hear 6, and no room", RefusedTest::full, x -> x.hear(6), BAD);
+        refused("apart of a NAME of 10, not of the set", RefusedTest::full, x -> x.apart(0, 6, 0), BAD);
+        refused("apart of a NAME of 10, what is 2", RefusedTest::full, x -> x.apart(0, 7, 2), BAD);
+        refused("said of nobody, behind its end", RefusedTest::half, x -> x.said(3, 19), BAD);
+        refused("called by 1000, behind the last", RefusedTest::half, x -> x.called(1000, 7), BAD);
+        refused("called by 0, not a place", RefusedTest::half, x -> x.called(0, 8), BAD);
+        refused("greet no set, behind the last", RefusedTest::half, x -> x.greet(8, 7), BAD);
+        refused("shortCall of alike ones, not of the set", RefusedTest::alike, x -> x.shortCall(2, 3), BAD);
+        refused("allShort of alike ones, and of more than there are", RefusedTest::alike, x -> x.allShort(7), BAD);
+        refused("apart of alike ones, what is 2", RefusedTest::alike, x -> x.apart(0, 3, 2), BAD);
+        refused("odds without weight, part is 2", RefusedTest::alike, x -> x.odds(0, 2), BAD);
+        refused("odds without weight, of nobody", RefusedTest::alike, x -> x.odds(2, 0), BAD);
+        refused("then by 10000, behind its end", RefusedTest::half, x -> x.then(10000, 0, 0, 9), BAD);
+        refused("then behind 61 YEARS, behind its end", RefusedTest::half, x -> x.then(0, 61, 0, 9), BAD);
+        refused("then of nobody, behind its end", RefusedTest::half, x -> x.then(0, 0, 3, 9), BAD);
+    }
+
     private static DeedNames alike() {
         DeedNames x = Check.laid("n0,01,5,0;n0,01,5,0;");
         x.hear(3);
@@ -336,5 +361,20 @@ public final class RefusedTest {
                 }
             }
         }
+    }
+
+    private static void lastCall() {
+        Check.about("An object is used for at most 512 calls");
+        DeedNames x = new DeedNames();
+        for (int calls = 0; calls < 508; calls += 4) {
+            Check.due("keep", x.keep(), 1);
+            Check.due("deed", x.deed(0, 5), 3);
+            Check.due("hear", x.hear(0), 1);
+            Check.due("back", x.back(), 0);
+        }
+        Check.due("keep", x.keep(), 1);
+        Check.due("deed", x.deed(0, 5), 3);
+        Check.due("then", x.then(0, 0, 0, 2), 5);
+        Check.due("the 512th call", x.back(), 0);
     }
 }
