@@ -1,16 +1,11 @@
-import java.io.IOException;
 import java.lang.reflect.Constructor;
 import java.lang.reflect.Field;
 import java.lang.reflect.Method;
 import java.lang.reflect.Modifier;
-import java.nio.file.Files;
-import java.nio.file.Path;
 import java.util.Set;
 import java.util.TreeSet;
-import java.util.regex.Matcher;
-import java.util.regex.Pattern;
 
-/** The face as the document has it, and those rules of LANGUAGE.md that a look at the file can tell. */
+/** The face as the document has it, and no more of it: LANGUAGE.md, rule 1. */
 public final class FaceTest {
     private static final Set<String> FACE = new TreeSet<>(Set.of(
         "int write(int,long)", "int wipe()", "int fault()", "int lay()", "int person(int,int)", "int said(int,int)",
@@ -18,15 +13,12 @@ public final class FaceTest {
         "int greet(int,int)", "int shortCall(int,int)", "int allShort(int)", "int apart(int,int,int)", "int hear(int)",
         "int forget()", "long odds(int,int)", "int meant()", "int years(int,int,int)", "int then(int,int,int,int)",
         "int keep()", "int back()", "int count(int)"));
-    private static final String[] FORBIDDEN = {"throw", "throws", "try", "catch", "finally", "synchronized", "assert", "import",
-        "package", "protected", "->", "::", "Exact", "Random", "Thread", "System\\.(?!arraycopy)"};
 
-    public static void main(String[] args) throws IOException {
+    public static void main(String[] args) {
         methods();
         constants();
         members();
-        nestedMethodNames();
-        source();
+        namesOfTheFace();
         Check.end();
     }
 
@@ -72,29 +64,23 @@ public final class FaceTest {
         }
     }
 
-    private static void nestedMethodNames() {
+    private static void namesOfTheFace() {
+        for (Method m : DeedNames.class.getDeclaredMethods()) {
+            if (!Modifier.isPublic(m.getModifiers())) {
+                bearsNoNameOfTheFace(m);
+            }
+        }
         for (Class<?> c : DeedNames.class.getDeclaredClasses()) {
             for (Method m : c.getDeclaredMethods()) {
-                for (String face : FACE) {
-                    Check.due(c.getName() + "." + m.getName() + " bears a name of the face", face.contains(" " + m.getName() + "(") ? 1 : 0, 0);
-                }
-                Check.due(m.getName() + " has at most seven parameters", m.getParameterCount() <= 7 ? 1 : 0, 1);
+                bearsNoNameOfTheFace(m);
             }
         }
     }
 
-    private static void source() throws IOException {
-        String text = Files.readString(Path.of("src/main/java/DeedNames.java"));
-        String code = text.replaceAll("(?s)/\\*.*?\\*/", "").replaceAll("//[^\n]*", "");
-        for (String word : FORBIDDEN) {
-            String edge = Character.isLetter(word.charAt(0)) && !word.equals("Exact") ? "\\b" : "";
-            Matcher m = Pattern.compile(edge + word + (word.endsWith(")") ? "" : edge)).matcher(code);
-            Check.due("'" + word + "' in the source", m.find() ? 1 : 0, 0);
-        }
-        for (int k = 0; k < text.length(); k++) {
-            if (text.charAt(k) > 126) {
-                Check.due("sign at " + k, text.charAt(k), 126);
-            }
+    private static void bearsNoNameOfTheFace(Method m) {
+        for (String face : FACE) {
+            boolean same = face.contains(" " + m.getName() + "(");
+            Check.due(m + " bears a name of the face", same ? 1 : 0, 0);
         }
     }
 }

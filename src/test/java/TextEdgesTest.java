@@ -28,6 +28,7 @@ public final class TextEdgesTest {
         parted();
         endOfItems();
         figures();
+        zerosAhead();
         numbersThatAreTold();
         syllablesOfNames();
         eightPersons();
@@ -302,6 +303,46 @@ public final class TextEdgesTest {
             for (String number : none) {
                 faulty(slot.ahead + number + slot.behind);
             }
+        }
+    }
+
+    private static void zerosAhead() {
+        Check.about("numbers have one to three figures: zeros ahead are figures, and the number is the same");
+        for (String ahead : new String[] {"", "0", "00"}) {
+            for (int number = 0; number <= 99 && ahead.length() + ("" + number).length() <= 3; number++) {
+                String told = ahead + number;
+                Check.due("X told by " + told, Check.laid("n0,01," + told + ",0;").person(0, 1), number);
+                if (number >= 1 && number <= 12) {
+                    Check.due("B told by " + told, Check.laid("n0,01,5,0;b" + told + ",1;").count(4), number);
+                }
+                if (number <= 20) {
+                    Check.due("V told by " + told, Check.laid("n0,01,5,0;b1," + told + ";").count(5), number);
+                }
+                if (number <= 9) {
+                    zerosAheadOfOneFigure(told, number);
+                }
+            }
+        }
+    }
+
+    private static void zerosAheadOfOneFigure(String told, int number) {
+        Check.due("RANK told by " + told, Check.laid("n0,01,5," + told + ";").person(0, 2), number);
+        Check.due("M told by " + told, Check.laid("n0,01,5,0;m" + told + ";").count(6), number);
+        if (number >= 1) {
+            Check.due("beats told by " + told, Check.laid("n0,5,5,0;s005," + told + ";").person(0, 5), number);
+        }
+        if (number <= 3) {
+            Check.due("KIND told by " + told, Check.laid("n" + told + ",01,5,0;").person(0, 0), number);
+        }
+        if (number <= 5) {
+            DeedNames x = Check.laid("n0,01,5,0;l" + told + ",04;l4," + told + ";");
+            x.deed(0, number);
+            x.deed(0, 4);
+            Check.due("worth of DEED " + told, x.said(0, 2), 4);
+            Check.due("worth told by " + told, x.said(0, 3), number);
+            Check.due("shame told by " + told, Check.laid("n0,01,5,0;k" + told + ";").deed(0, number), 1);
+            DeedNames y = Check.laid("n0," + number + ",5,0;s" + told + ",9;");
+            Check.due("beats of SYLLABLE " + told, y.person(0, 5), 9);
         }
     }
 
